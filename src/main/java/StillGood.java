@@ -438,7 +438,7 @@ public final class StillGood {
     private void think() {
         Jug inHand = now.inHand();
         if (inHand != null) {
-            taken.copyFrom(inHand);
+            taken.fillFrom(inHand);
         }
         thoughts.weigh(taken);
         for (int i = 0; i < now.seenCount; i++) {
@@ -711,7 +711,7 @@ public final class StillGood {
             return refuse(ROOM);
         }
         think();
-        inMind.copyFrom(taken);
+        inMind.fillFrom(taken);
         int best = 0;
         long mostAbove = 0;
         long mostBelow = 1;
@@ -739,16 +739,17 @@ public final class StillGood {
         }
         think();
         long all = thoughts.sumOfAll();
-        // CAT does no HARM, so that there is always one.
-        int best = CAT;
-        boolean isFound = false;
+        int best = NONE;
+        long most = 0;
         for (int use = 0; use < USES; use++) {
+            long worth = now.netSum(use, whom, thoughts);
             boolean isSeldom = 100 * harmSum(use, thoughts) <= v * all;
-            if (isSeldom && (!isFound || now.netSum(use, whom, thoughts) > now.netSum(best, whom, thoughts))) {
+            if (isSeldom && (best == NONE || worth > most)) {
+                most = worth;
                 best = use;
-                isFound = true;
             }
         }
+        // CAT does no HARM: there always is one.
         return best;
     }
 
@@ -974,7 +975,7 @@ public final class StillGood {
             return refuse(refusal);
         }
         think();
-        inMind.copyFrom(taken);
+        inMind.fillFrom(taken);
         int wrong = NONE;
         for (int i = 0; i < numberCount; i++) {
             if (wrong == NONE && at(numbers, i) != inMind.trueStage()) {
@@ -1010,7 +1011,7 @@ public final class StillGood {
         int nets = 0;
         int thrown = 0;
         for (int week = 0; week < n; week++) {
-            inMind.copyFrom(taken);
+            inMind.fillFrom(taken);
             int use = TEA;
             for (int day = 0; day < WEEK && use == TEA; day++) {
                 seed = nextSeed(seed);
@@ -1122,7 +1123,7 @@ public final class StillGood {
     }
 
     private static int at(int[] line, int place) {
-        return isOneOf(place, line.length) ? line[place] : 0;
+        return place >= 0 && place < line.length ? line[place] : 0;
     }
 
     private static int heldTenths(int tenths) {
@@ -1172,7 +1173,7 @@ public final class StillGood {
             points = newPoints;
         }
 
-        private void copyFrom(Jug other) {
+        private void fillFrom(Jug other) {
             fill(other.kind, other.figure, other.cups, other.points);
         }
 
@@ -1320,7 +1321,7 @@ public final class StillGood {
                 Jug to = jugs[i];
                 Jug from = other.jugAt(i);
                 if (to != null && from != null) {
-                    to.copyFrom(from);
+                    to.fillFrom(from);
                 }
             }
             copyRow(other.seenTests, seenTests);
