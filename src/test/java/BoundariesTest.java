@@ -19,7 +19,8 @@ public final class BoundariesTest {
         if (got != want) {
             wrong++;
             if (wrong <= 60) {
-                System.out.println("promise " + promise + ", \"" + sentence + "\": " + call + " answered " + got + ", due is " + want);
+                System.out.println("promise " + promise + ", \"" + sentence + "\": " + call + " answered " + got
+                    + ", due is " + want);
             }
         }
     }
@@ -360,6 +361,8 @@ public final class BoundariesTest {
         due("jug(0, 7)", x.jug(0, 7), -2);
         due("jug(0, -1)", x.jug(0, -1), -2);
         due("jug(5, 7)", x.jug(5, 7), -1);
+        says(4, "as they come: the one IN HAND and what is SEEN of it stay");
+        counts(with("j001000;j001000;h1;s00;s10;j001000;"), 0, 3, 1, 1, 2, 2);
         says(4, "TRULY it is at STAGE POINTS by 48, cut, 4 at most");
         int[] least = {0, 48, 96, 144, 192, 241};
         for (int stage = 0; stage < 5; stage++) {
@@ -479,10 +482,41 @@ public final class BoundariesTest {
         counts(y, 0, 2, 1, 1, 2, 1);
         due("use(1)", y.use(1), 0);
         due("use(3)", y.use(3), 0);
+        roomAgain();
         says(10, "-3");
         due("use(1) of none", y.use(1), -3);
         due("use(0) of none", y.use(0), -3);
         due("use(10) of none", y.use(10), -3);
+    }
+
+    /** However many there were and whichever is no more: five stand again, each by itself. */
+    private static void roomAgain() {
+        for (int many = 1; many <= 5; many++) {
+            for (int hand = 0; hand < many; hand++) {
+                StillGood x = new StillGood();
+                StringBuilder figures = new StringBuilder();
+                for (int jug = 0; jug < many; jug++) {
+                    tell(x, "j0" + jug + "10" + jug + "0;");
+                    figures.append(jug);
+                }
+                x.hand(hand);
+                due("use(1)", x.use(1), 0);
+                figures.deleteCharAt(hand);
+                for (int jug = 5; figures.length() < 5; jug++) {
+                    due("a JUG more", tell(x, "j0" + jug % 10 + "1000;"), 1);
+                    figures.append(jug % 10);
+                }
+                due("a sixth", tell(x, "j001000;"), -2000);
+                for (int jug = 0; jug < 5; jug++) {
+                    due("FIGURE of " + jug + " behind " + hand + " of " + many, x.jug(jug, 1), figures.charAt(jug) - '0');
+                    x.warm(jug, jug + 1);
+                }
+                for (int jug = 0; jug < 5; jug++) {
+                    int first = jug < many - 1 ? 10 * x.jug(jug, 1) : 0;
+                    due("POINTS of " + jug, x.jug(jug, 3), first + 6 * (jug + 1));
+                }
+            }
+        }
     }
 
     private static void costsAndPrice() {
@@ -659,12 +693,13 @@ public final class BoundariesTest {
         due("NOSE and SIP alike", with("j001000;t00;t20;").bestTest(0), 0);
         due("DROP more than both", with("j001000;t00;t20;t10;").bestTest(0), 1);
         // MILK at 2: OFF 2, 4, 12, 16, 16 by 10: CAKE 170 - 16, RICE 126 + 16 - 80, TEA 54 + 60 + 16 - 48; not 18, 36,
-        // 48, 24, 4: TEA 486 + 240 + 24 - 12 = 738; 892 and 9 CUPS, now 820: 72 by 20 .
+        // 48, 24, 4: TEA 486 + 240 + 24 - 12 = 738; now TEA 820: 154 and 738 less 820 by 180 a CUP.
         due("LOOK", with("j009096;t09;t19;t29;").bestTest(0), 3);
         dueFraction("LOOK", with("j009096;").looking(3, 0, 0), with("j009096;").looking(3, 0, 1), 9 * (154 + 738 - 820), 180);
         due("bestTest(3)", x.bestTest(3), -1);
         due("bestTest(0) of none", new StillGood().bestTest(0), -3);
         pairsOfTests();
+        eachPair();
         useless();
     }
 
@@ -704,6 +739,27 @@ public final class BoundariesTest {
         due("freeWorth(-1, 0)", dear.freeWorth(-1, 0), 4000000000000000001L);
         due("freeWorth(2, -1)", dear.freeWorth(2, -1), 4000000000000000002L);
         due("freeWorth(0, 0) of none", new StillGood().freeWorth(0, 0), 4000000000000000003L);
+    }
+
+    /** A KITCHEN, WHOM; TWO, how much; FREE, how much: worked out by fractions, apart from program and Oracle. */
+    private static final Object[][] PAIRS = {
+        {"j101096;t00;t19;t21;t30;", 0, 0, 34, 45, 0, 34, 45}, {"j009048;t00;t11;t29;t30;", 0, 1, 511, 200, 0, 511, 200},
+        {"j409000;t00;t10;t20;t30;", 1, 2, 12, 5, 0, 12, 5}, {"j509144;t00;t19;t20;t31;", 2, 3, 1303, 200, 0, 3381, 400},
+        {"j409096;t00;t10;t21;t31;", 0, 11, 232, 25, 1, 232, 25}, {"j009000;t00;t10;t20;t30;", 1, 12, 12, 5, 1, 12, 5},
+        {"j409192;t09;t10;t29;t31;", 1, 13, 4, 5, 1, 4, 3}, {"j209048;t00;t19;t20;t30;", 2, 22, 2529, 200, 2, 2529, 200},
+        {"j509096;t09;t19;t21;t30;", 2, 23, 281, 50, 3, 1624, 225}, {"j309192;t00;t19;t21;t30;", 2, 33, 7029, 425, 3, 7034, 425},
+    };
+
+    private static void eachPair() {
+        says(22, "the pair (10 first, second) worth most, of several the least");
+        for (Object[] one : PAIRS) {
+            StillGood x = with((String) one[0]);
+            int whom = (Integer) one[1];
+            due("two(" + whom + ") of " + one[0], x.two(whom), (Integer) one[2]);
+            dueFraction("twoWorth of " + one[0], x.twoWorth(whom, 0), x.twoWorth(whom, 1), (Integer) one[3], (Integer) one[4]);
+            due("free(" + whom + ") of " + one[0], x.free(whom), (Integer) one[5]);
+            dueFraction("freeWorth of " + one[0], x.freeWorth(whom, 0), x.freeWorth(whom, 1), (Integer) one[6], (Integer) one[7]);
+        }
     }
 
     private static void useless() {

@@ -887,7 +887,7 @@ public final class PromisesTest {
         due("of none", new StillGood().bestRule(2), 0);
         // MILK of FIGURE 0 with 1 POINT: THROW -1, TRUST 9, TEST 9, USE 9, BEST USE 9.
         due("TRUST, the least", with("j001001;").bestRule(0), 1);
-        // At 2: TRUST 5, TEST 5, USE 7 (RICE), BEST USE by 2, 4, 6, 4, 2: CAKE 80 + 8, RICE 42 + 42 + 4 - 10.
+        // At 2: TRUST 5, TEST 5, USE 7 (RICE), BEST USE by 2, 4, 6, 4, 2: TEA 54 + 30 + 4 - 6, RICE and CAKE 78: 5.
         due("USE", with("j001096;").bestRule(0), 3);
         // At 4: TRUST -3, TEST -1, USE -4, BEST USE (CAKE) -1; THROW -1 (FIGURE 0).
         due("THROW", with("j001192;").bestRule(0), 0);
@@ -1014,10 +1014,10 @@ public final class PromisesTest {
             int warm = ((z & 0x7fffffff) >> 16) % 7;
             points = Math.min(240, points + 12 * warm + 3 * (24 - warm));
             int stage = Math.min(4, points / 48);
-            // Weights at 0: TEA 100 of RICE 84; at 1: TEA 36 + 54 + 20 + 2 = 112 of 16, RICE 98 + 2 = 100; at 2:
-            // TEA 18 + 36 + 30 + 4 - 6 = 82, RICE 78, CAKE 88; at 3: CAKE 56, at 4: 24.
-            if (stage >= 2) {
-                return new int[] {0, 0, 5, 5, -1}[stage];
+            // Weights at 0: TEA 100, RICE 84; at 1: TEA 36 + 54 + 20 + 2 = 112, RICE 98 + 2 = 100; at 2:
+            // TEA 18 + 36 + 30 + 4 - 6 = 82, RICE 78, CAKE 78; at 3: CAKE 56, TEA 32; at 4: CAKE 24.
+            if (stage >= 3) {
+                return stage == 3 ? 5 : -1;
             }
         }
         return 9;
