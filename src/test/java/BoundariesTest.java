@@ -696,11 +696,34 @@ public final class BoundariesTest {
         // 48, 24, 4: TEA 486 + 240 + 24 - 12 = 738; now TEA 820: 154 and 738 less 820 by 180 a CUP.
         due("LOOK", with("j009096;t09;t19;t29;").bestTest(0), 3);
         dueFraction("LOOK", with("j009096;").looking(3, 0, 0), with("j009096;").looking(3, 0, 1), 9 * (154 + 738 - 820), 180);
+        leastAboveNothing();
         due("bestTest(3)", x.bestTest(3), -1);
         due("bestTest(0) of none", new StillGood().bestTest(0), -3);
         pairsOfTests();
         eachPair();
         useless();
+    }
+
+    private static void leastAboveNothing() {
+        says(21, "above 0: as little as can be");
+        // An EGG at 0, DROP and SIP said OFF: 0, 0, 30, 63, 100: a baby's CAT 186 - 400. DROP more: not OFF 240, 189, 0:
+        // CAKE 2145; OFF 60, 441, 1000: CAT 1002 - 4000. So 2145 - 2998 + 2140 = 1287 by 1930, times 3, less 2.
+        StillGood baby = with("j303000;s11;s21;p2;t09;t12;t29;t39;");
+        dueFraction("DROP", baby.looking(1, 2, 0), baby.looking(1, 2, 1), 3 * 1287 - 2 * 1930, 1930);
+        due("DROP", baby.bestTest(2), 1);
+        // An EGG at 4, SIP said OFF: 0, 2, 15, 45, 70: CAKE 310 - 70. SIP more: not OFF 0, 16, 75, 45, 0: RICE 637 + 45,
+        // CAKE 680; OFF 0, 4, 75, 405, 700: CAKE 2420 - 700. So 682 and 1720 less 2400, by 1320.
+        StillGood two = with("j301192;s21;t09;t19;t20;t39;");
+        dueFraction("SIP", two.looking(2, 0, 0), two.looking(2, 0, 1), 2, 1320);
+        due("SIP", two.bestTest(0), 2);
+        StillGood dearer = with("j301192;s21;t09;t19;t21;t39;");
+        dueFraction("SIP for 1", dearer.looking(2, 0, 0), dearer.looking(2, 0, 1), 2 - 1320, 1320);
+        due("SIP for 1", dearer.bestTest(0), -9);
+        // An EGG at 0, SIP eight times not OFF: LOOK says OFF at 3 alone, by 2: CAKE 10, not TEA 2.
+        StillGood eight = with("j301000;" + times(8, "s20;"));
+        long all = 700000000L + 5 * 16777216L + 3 * 390625L + 1;
+        dueFraction("LOOK", eight.looking(3, 0, 0), eight.looking(3, 0, 1), 8, 10 * all);
+        due("LOOK", eight.bestTest(0), 3);
     }
 
     /** An EGG that is off at any rate: CAKE stays best whatever one or two more TESTS say. */
