@@ -942,10 +942,14 @@ public final class BoundariesTest {
             due("at 0, " + v, fresh.seldom(0, v), v < 17 ? 1 : 0);
         }
         due("a baby: TEA and RICE alike", fresh.seldom(2, 100), 0);
-        // At STAGE 1 an EGG by 5, 7, 5, 3, 1: CAKE does HARM in 1 of 21, 4 hundredths are fewer.
+        // An EGG at 1 by 5, 7, 5, 3, 1: CAKE does HARM in 1 of 21, RICE in 4 (400 is 19 times 21 and 1), TEA in 9: 99, 117,
+        // 133; CAT 40. At 2 by 3, 5, 7, 5, 3: CAKE in 3 of 23 (300 is 13 times 23 and 1); a child's 91, RICE 73, TEA 51.
         StillGood egg = with("j301048;");
-        due("4", egg.seldom(0, 4), 3);
-        due("5", egg.seldom(0, 5), 2);
+        StillGood elder = with("j301096;");
+        for (int v = 0; v <= 100; v++) {
+            due("EGG at 1, " + v, egg.seldom(0, v), v < 5 ? 3 : v < 20 ? 2 : v < 43 ? 1 : 0);
+            due("EGG at 2, a child, " + v, elder.seldom(1, v), v < 14 ? 3 : 2);
+        }
         due("seldom(0, 101)", fresh.seldom(0, 101), -6);
         due("seldom(0, -1)", fresh.seldom(0, -1), -4);
         due("seldom(3, 101)", fresh.seldom(3, 101), -1);
